@@ -14,6 +14,7 @@ public final class ClaimTest {
         nothingToDiscardThen();
         threes();
         fours();
+        fifthFour();
         noTileLeft();
         somebodyWins();
         withBet();
@@ -29,6 +30,9 @@ public final class ClaimTest {
         script.laid(1, 0, 0, 4).seat(1, 5, 1).seat(1, 6, 1).hand(1, 4, 0).hand(1, 5, 0);
         script.hand(1, 6, 0).hand(1, 7, 1).seat(0, 4, 1).waits(1);
         script.play("!r1.4 !r2.4 !p");
+        // 2 has the others, but it is not the next SEAT.
+        new Script(CHECK, "not the next").play("deal0 d18").hand(2, 19, 1).hand(2, 20, 1).play("!r2.18");
+        new Script(CHECK, "not the next either").play("deal1 d26").hand(2, 24, 1).hand(2, 25, 1).play("!r2.24");
         // 8 0 1 is no RUN: 7 8 9 of a suit and the next suit are no neighbours.
         new Script(CHECK, "over the end").play("deal7 d9 p d33 p d8 !r3.7 !r3.8 r3.6").laid(3, 0, 0, 6);
     }
@@ -63,6 +67,15 @@ public final class ClaimTest {
         // The same discards can be threes.
         new Script(CHECK, "three of three").play("deal614962465766831483 d15 t3").hand(3, 15, 1)
             .laid(3, 0, 1, 15).count(7, 0).play("!d15 !a15");
+    }
+
+    private static void fifthFour() {
+        new Script(CHECK, "a fifth FOUR").play("deal-7558694003251052115 d3 r1.1 d28 p d16 p d29 p d30 p "
+            + "d14 p d25 p d2 p d1 p d33 p d9 f3 d4 p d16 p d20 p d18 t1 d15 p d3 p d7 p d8 f3 d32 t0 "
+            + "d7 p d25 p d22 p d6 p d22 p d4 p d5 p d20 p d25 p d1 p d11 p d1 p d4 p d24 p d7 p d22 p "
+            + "d20 p d0 f2 d28 p d10 p d29 p d10 p d15 p d6 p d14 p d29 p d33 p d13 p d6 p d27 t0 d28 "
+            + "p d3 p d13 p d16 p d17 f1 d31 !f2")
+            .count(7, 4).hand(2, 31, 3).play("t2");
     }
 
     private static void noTileLeft() {

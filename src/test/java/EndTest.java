@@ -70,6 +70,8 @@ public final class EndTest {
         // All but 2 wait, 1 and 3 with a BET; the DEALER stays.
         script = new Script(CHECK, "three wait").play(THREE_WAIT).points(26000, 25000, 22000, 25000);
         script.count(5, 2).count(2, 0).count(4, 1);
+        // 3 let something go with its BET: neither is so in the next hand.
+        script.seat(3, 1, 1).seat(3, 2, 1).play("deal1").seat(3, 1, 0).seat(3, 2, 0).count(5, 2);
         script = new Script(CHECK, "all wait").play(FOUR_WAIT).points(24000, 24000, 24000, 25000);
         script.count(5, 3).count(2, 0).count(4, 1);
         script = new Script(CHECK, "nobody waits").play(NONE_WAITS).points(25000, 25000, 25000, 25000);
@@ -107,5 +109,9 @@ public final class EndTest {
         Script script = new Script(CHECK, "broke").play("deal78981 w").points(73000, 9000, 9000, 9000);
         script.count(9, 0).play("deal78981 w").points(121300, -7100, -7100, -7100).count(9, 1);
         script.count(4, 1).count(2, 0).count(10, 2).count(11, 1);
+        // With 0 POINTS the GAME goes on.
+        script = new Script(CHECK, "0 POINTS").play("deal78981 w deal33705604014929126 n");
+        script.play("deal-953511006751253465 d22 c1 p deal185104 d6 p w").points(58000, 0, 41000, 1000);
+        script.count(9, 0).play("deal1");
     }
 }

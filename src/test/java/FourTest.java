@@ -15,6 +15,7 @@ public final class FourTest {
         notRobbed();
         fourFours();
         lastTiles();
+        refused();
         CHECK.end();
     }
 
@@ -91,5 +92,34 @@ public final class FourTest {
         // Nothing but BEHIND A FOUR counts: it is no LAST DRAW.
         script.play("w").forms(0, 6).won(0, 2, -1, 480, 1, 60, 2000, 2);
         script.points(24000, 24500, 27000, 24500);
+    }
+
+    private static void refused() {
+        new Script(CHECK, "hide behind a claim").play("deal7594955257852190972 d33 t1 !h18");
+        new Script(CHECK, "add behind a claim").play("deal4384980734555501908 d8 t3 !a8");
+        new Script(CHECK, "hide with a BET").play("deal-5348581569865728475 d5 p d13 p d15 p d23 p d27 p "
+            + "b33 p d2 t3 d32 p d12 p !h16");
+        new Script(CHECK, "a fifth, hidden").play("deal4444957694299120813 d22 p d1 p d21 p d25 p d28 t2 "
+            + "d18 p d24 p d18 p d8 p d20 p d14 p d2 p d22 p d9 p h11 d17 p d18 p d8 p d27 p d22 p d33 "
+            + "t1 d29 p d29 p d1 p d8 p a33 p d10 p d30 p d9 p d31 p d30 p d7 f1 d21 p d5 p d32 p d21 "
+            + "p d9 p d10 p d3 t0 d32 p d30 p d12 p d24 p d14 p d19 p d19 p h6 d17 p d14 p d28 p d5 p "
+            + "d20 p d19 p d1 p d10 p d31 t0 d21 p d13 p d32 p d25 p d26 p d25 p !h23");
+        new Script(CHECK, "a fifth, added").play("deal1675817529717765701 d32 p d26 p d7 p d29 f0 d22 p "
+            + "d8 p d4 p d9 p d6 p d33 p d6 p d18 p d19 p d16 p d31 t3 d15 r0.14 d22 p d1 p d1 p d11 p "
+            + "d27 p d33 p d22 p d2 p d10 p d19 p d17 p d30 p d2 p d24 p d10 p d33 p d26 t3 d32 p d18 "
+            + "p d8 p d25 p d7 p d3 p d4 p h20 d7 p d30 p d13 p d21 p d33 p d5 f2 d32 p d0 f0 d8 p d23 "
+            + "p d14 p !a31");
+        new Script(CHECK, "hide, no tile left").play("deal13 d33 p d10 p d31 p d1 p d28 p d2 p d25 p d30 p "
+            + "d24 p d12 p d1 p d29 p d28 p d20 p d2 p d9 p d0 p d19 p d12 p d6 p d2 p d9 p d5 p d15 p "
+            + "d13 p d31 p d4 p d6 p d31 p d17 p d4 p d26 r0.24 d8 p d28 p d31 p d32 p d17 p d14 p d9 "
+            + "p d3 p d14 p d33 p d10 p d17 p d15 p d0 p d0 p d19 p d3 p d0 p d8 p d22 p d25 p d5 p "
+            + "d20 p d23 p d18 p d9 p d23 p d18 p d16 p d10 p d18 p d32 p d20 p d33 p d28 p d4 p d29 p "
+            + "d4 p !h7");
+        new Script(CHECK, "add, no tile left").play("deal13 d8 p d12 p d4 p d17 p d28 p d33 p d5 p d26 p "
+            + "d29 p d19 p d28 p d30 p d25 p d17 p d31 p d22 p d3 p d2 p d7 p d15 p d33 p d26 p d9 p "
+            + "d6 p d17 p d9 p d25 p d1 p d31 p d31 p d31 p d32 p d32 p d2 p d4 p d29 p d22 p d23 t3 "
+            + "d19 p d32 p d28 p d8 p d13 p d29 p d15 p d17 p d3 p d25 p d25 p d26 p d9 p d13 p d20 p "
+            + "d13 p d12 p d26 p d5 p d30 p d4 p d20 p d22 p d10 p d8 p d11 p d0 p d0 p d18 p d28 p "
+            + "d18 p d4 p !a23");
     }
 }

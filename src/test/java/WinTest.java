@@ -14,6 +14,8 @@ public final class WinTest {
         several();
         stays();
         nothingToWin();
+        dearTiles();
+        laterHands();
         CHECK.end();
     }
 
@@ -115,5 +117,56 @@ public final class WinTest {
         Script script = new Script(CHECK, "no FORM").play("deal8388691691443010381 d8 p d6 p d3 p d14 t2 "
             + "d28 p d15 p d9 p d1 p d29 p d25 t0 d29 p d22 p").waits(0, 11, 14).waits(2);
         script.play("!w d14").seat(0, 2, 0).play("!c0 p").seat(0, 2, 1);
+    }
+
+    /** Behind the last of a suit, of the WINDS, of the DRAGONS the first is dear. */
+    private static void dearTiles() {
+        dear("deal-5909911554211021908 d1 p d28 p d9 p d29 p d30 p d30 p "
+            + "d14 p d22 p d3 p d25 p d24 c1 p", 3, 15, 1);
+        dear("deal-537230785749948347 d28 p d26 p d29 p d30 p d30 p d29 p "
+            + "d3 p d28 p d27 p d18 p d14 p d26 p d15 p d10 c2 p", 3, 11, 1);
+        dear("deal-9210070127743339326 d26 p d0 t2 d32 p d1 p d33 p d23 p "
+            + "d2 p d30 p w", 1, -1, 2);
+        dear("deal1776780961142157287 d24 p d26 p d12 p d27 p d9 p d21 p "
+            + "d31 p d29 t1 d15 p w", 2, -1, 1);
+        dear("deal3749679868375574387 d9 p d32 p d20 p d22 p d30 p d29 p "
+            + "d22 p d4 p d17 p d5 c0 p", 1, -1, 1);
+        // BET, the SEAT's WIND, a dear tile; no AT ONCE behind the FOUR, nor is 2 BEHIND A FOUR.
+        new Script(CHECK, "behind another's FOUR").play("deal3254217103185153735 d18 p d0 p d17 p d27 p d33 p d30 p "
+            + "b10 p h1 d20 c2 p")
+            .forms(0, 0, 14).won(0, 2, 3, 1280, 3, 40, 6200, 20).points(25000, 25000, 30200, 19800);
+        // FIRST BET, FLAT, a HIDDEN SIGN 26: one 18 is dear.
+        new Script(CHECK, "a HIDDEN SIGN").play("deal-5913967130633892212 d5 p b30 p d31 p d9 p d30 p d7 p "
+            + "d3 p d18 c1 p")
+            .forms(0, 1, 9).won(0, 1, 3, 1920, 4, 30, 8700, 18);
+    }
+
+    /** HAN is that of the FORMS, and one for each dear tile. */
+    private static void dear(String calls, int tiles, int form, int han) {
+        Script script = new Script(CHECK, "dear tiles").play(calls);
+        CHECK.due(calls + ": HAN", script.house.won(0, 3), han + tiles);
+        CHECK.due(calls + ": FORM", form < 0 || (script.house.forms(0) >> form & 1) == 1, true);
+    }
+
+    /** Nothing of an earlier hand counts in a later one. */
+    private static void laterHands() {
+        // SETS were claimed and FOURS made in the first hand: the next is new.
+        Script script = new Script(CHECK, "HEAVEN later").play("deal7565978298731794306 d12 p d17 p d24 p d6 p "
+            + "d11 p d16 p d28 p d9 t0 d18 p d8 p d16 p d32 p d27 f2 w").count(7, 1).count(8, 2);
+        script.play("deal78981").count(7, 0).count(8, 1).count(6, 69).play("w").forms(0, 42);
+        // EARTH is not, when a SET was claimed.
+        script = new Script(CHECK, "no EARTH").play("deal669692 d14 t2 d0 p w").forms(0, 3, 15);
+        script.won(0, 3, -1, 640, 2, 40, 2700, 24).points(23700, 24300, 24300, 27700);
+        // 2 wins AT ONCE, and in the next hand without a BET.
+        script = new Script(CHECK, "no AT ONCE").play("deal-7103284216992910152 d16 p d21 p b5 p d21 c2 p");
+        script.forms(0, 1, 2, 11).won(0, 2, 3, 2000, 4, 40, 9000, 21);
+        script.play("deal-953511006751253465 d22").seat(2, 1, 0).play("c2 p").forms(0, 16);
+        // ROUND 1: 27 is the ROUND's WIND no more.
+        script = new Script(CHECK, "ROUND 1");
+        for (int i = 0; i < 4; i++) {
+            script.play("deal-953511006751253465 d22 c" + (i + 1) % 4 + " p");
+        }
+        script.count(3, 1).count(2, 0).play("deal7565978298731794306 d12 p d17 p d24 p d6 p d11 p d16 p d28 p "
+            + "d9 t0 d18 p d8 p d16 p d32 p d27 f2 w").forms(0, 6).won(0, 2, -1, 640, 2, 40, 2700, 21);
     }
 }
