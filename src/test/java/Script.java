@@ -4,7 +4,8 @@ import java.util.Arrays;
  * A house that is played by a text of calls, each of which must be accepted unless a ! stands
  * before it; GameModel goes along, and all answers of the two are the same after each call.
  * dealN deal(N); dK, bK discard(K, without or with a BET); p pass(); rS.L run(S, L); tS three(S);
- * fS four(S); hK hide(K); aK add(K); w win(); cS claim(S); n nine().
+ * fS four(S); hK hide(K); aK add(K); w win(); cS claim(S); n nine(); xN N times the drawn tile is
+ * discarded and let go.
  */
 final class Script {
     final TileHouse house = new TileHouse();
@@ -19,6 +20,10 @@ final class Script {
 
     Script play(String calls) {
         for (String word : calls.trim().split("\\s+")) {
+            if (word.startsWith("x")) {
+                letGo(Integer.parseInt(word.substring(1)));
+                continue;
+            }
             boolean refused = word.startsWith("!");
             Bot.Call call = callOf(refused ? word.substring(1) : word);
             long[] before = GameModel.answersOf(house);
@@ -33,6 +38,12 @@ final class Script {
             }
         }
         return this;
+    }
+
+    private void letGo(int tiles) {
+        for (int i = 0; i < tiles; i++) {
+            play("d" + house.count(12) + " p");
+        }
     }
 
     private static Bot.Call callOf(String word) {
@@ -104,6 +115,18 @@ final class Script {
 
     Script hand(int seat, int kind, int want) {
         check.due(name + ": hand(" + seat + ", " + kind + ")", house.hand(seat, kind), want);
+        return this;
+    }
+
+    /** What a SEAT has in its hand, each tile told. */
+    Script has(int seat, int... kinds) {
+        int[] want = new int[34];
+        for (int kind : kinds) {
+            want[kind]++;
+        }
+        for (int kind = 0; kind < 34; kind++) {
+            hand(seat, kind, want[kind]);
+        }
         return this;
     }
 
