@@ -18,16 +18,8 @@ public final class DeskTest {
         CHECK.end();
     }
 
-    /** The tiles of a text: 4 is a tile of KIND 4, r4 t4 f4 h4 a RUN, THREE, FOUR, hidden FOUR. */
     private static TileHouse desk(String tiles) {
-        TileHouse house = new TileHouse();
-        for (String word : tiles.trim().split("\\s+")) {
-            int sort = "rtfh".indexOf(word.charAt(0));
-            boolean done = sort < 0 ? house.lay(Integer.parseInt(word), 1)
-                : house.set(sort, Integer.parseInt(word.substring(1)));
-            CHECK.yes(tiles + ": " + word, done);
-        }
-        return house;
+        return Desk.of(CHECK, tiles);
     }
 
     /** BASE, HAN, FU and FORMS of a hand, the WINNER not its own DRAW unless drawn; no dear tile. */

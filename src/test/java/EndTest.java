@@ -2,32 +2,32 @@
 public final class EndTest {
     private static final Check CHECK = new Check("EndTest");
 
-    private static final String ONE_WAITS = "deal2 d7 p d25 p d3 p d15 p d22 p d10 p d0 p d9 p d18 p d16 p "
+    static final String ONE_WAITS = "deal2 d7 p d25 p d3 p d15 p d22 p d10 p d0 p d9 p d18 p d16 p "
         + "d5 p d1 p d30 p d33 p d20 p d10 p d2 p d4 p d7 p d11 p d33 p d8 p d14 p d8 p d8 p d22 p d15 p d28 "
         + "p d2 p d14 p d18 p d9 p d11 p d0 p d32 p d6 p d3 p d17 p d4 p d6 p d15 p d20 p d6 p d33 p d6 p "
         + "d13 p d32 p d32 p d5 p d29 p d10 p d25 p d0 p d17 p d26 p d31 p d1 p d26 p d30 p d1 p d29 p d24 p "
         + "d26 p d32 p d31 p d27 p d1 p d22 p d4 p d13 p ";
-    private static final String TWO_WAIT = "deal-1 d32 p d25 p d19 p d8 p d1 p d33 p d7 p d31 p d3 p d5 p "
+    static final String TWO_WAIT = "deal-1 d32 p d25 p d19 p d8 p d1 p d33 p d7 p d31 p d3 p d5 p "
         + "d15 p d22 p d26 p d32 p d28 p d26 p d6 p d8 p d32 p d4 p d13 p d2 p d13 p d16 p d33 p d9 p d32 p "
         + "d20 p d27 p d30 p d9 p d26 p d24 p d8 p d25 p d0 p d14 p d9 p d22 p d17 p d18 p d17 p d21 p d33 p "
         + "d8 p d7 p b5 p d28 p d2 p d7 p d1 p d12 p d12 p d18 p d29 p d6 p d0 p d18 p d20 p d22 p d24 p d13 "
         + "p d0 p d24 p d27 p b4 p d26 p d29 p d4 p d30 p ";
-    private static final String THREE_WAIT = "deal26 d29 p d23 p d9 p d1 p d32 p d3 p d6 p d28 p d11 p d26 p d20 p "
+    static final String THREE_WAIT = "deal26 d29 p d23 p d9 p d1 p d32 p d3 p d6 p d28 p d11 p d26 p d20 p "
         + "d3 p d2 p d27 p d23 p b16 p d7 p d15 p d11 p d7 p d3 p d0 p d24 p d32 p d16 p d23 p "
         + "d20 p d33 p d3 p d18 p d9 p d1 p d31 p d31 p d32 p d1 p d12 p d15 p d2 p d4 p d33 p "
         + "d4 p d2 p d13 p d20 p d2 p d1 p d9 p d31 p b9 p d31 p d28 p d10 p d15 p d30 p d29 p "
         + "d22 p d33 p d32 p d11 p d27 p d4 p d14 p d15 p d11 p d21 p d12 p d0 p d19 p d30 p ";
-    private static final String FOUR_WAIT = "deal-1 d13 p d33 p d19 p d27 p d14 p d25 p d7 p d8 p d32 p d2 p d12 p "
+    static final String FOUR_WAIT = "deal-1 d13 p d33 p d19 p d27 p d14 p d25 p d7 p d8 p d32 p d2 p d12 p "
         + "d31 p d3 p d32 p d32 p d0 p d8 p d4 p d15 p d4 p d24 p d9 p d28 p d26 p d27 p d9 p "
         + "d25 p d6 p d33 p d30 p d10 p d26 p d6 p d5 p d5 p d27 p d1 p d1 p d32 p d29 p d18 p "
         + "d2 p b23 p d6 p d2 p d21 p d11 p d28 p d22 p d5 p d1 p d33 p d0 p d18 p d29 p d20 p "
         + "b12 p d13 p d20 p d22 p d13 p b17 p d0 p d11 p d27 p d3 p d26 p d17 p d4 p d30 p ";
-    private static final String NONE_WAITS = "deal14 d18 p d31 p d0 p d29 p d5 p d13 p d20 p d12 p d0 p d27 p d0 p "
+    static final String NONE_WAITS = "deal14 d18 p d31 p d0 p d29 p d5 p d13 p d20 p d12 p d0 p d27 p d0 p "
         + "d26 p d25 p d18 p d30 p d19 p d28 p d2 p d9 p d6 p d29 p d19 p d24 p d31 p d1 p d8 "
         + "p d8 p d23 p d2 p d21 p d28 p d2 p d7 p d10 p d24 p d13 p d30 p d16 p d9 p d9 p d15 "
         + "p d16 p d15 p d11 p d0 p d7 p d20 p d16 p d22 p d31 p d22 p d27 p d28 p d4 p d12 p "
         + "d3 p d16 p d13 p d8 p d1 p d32 p d15 p d11 p d2 p d19 p d8 p d1 p d32 p d19 p d31 p ";
-    private static final String DEALER_WAITS = "deal3 d15 p d19 p d4 p d9 p d29 p d12 p d15 p d28 p d8 p d31 p d24 p "
+    static final String DEALER_WAITS = "deal3 d15 p d19 p d4 p d9 p d29 p d12 p d15 p d28 p d8 p d31 p d24 p "
         + "d26 p d21 p d22 p d20 p d8 p d33 p d10 p d29 p d27 p h17 d18 p d14 p d9 p d20 p d27 "
         + "p d2 p d6 p d31 p d32 p d0 p d33 p d6 p d5 p d5 p d9 p d4 p d2 p d19 p d26 p d29 p "
         + "d10 p d9 p d7 p d8 p d30 p d23 p d15 p d27 p d16 p d10 p d5 p d33 p b21 p d6 p d20 "
