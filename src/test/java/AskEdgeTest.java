@@ -69,7 +69,8 @@ public final class AskEdgeTest {
         script("a hidden FOUR").play("deal-6021044661905231204").hand(0, 21, 4).play("h21").hand(0, 21, 0);
         script("a THREE of three").play("deal27 d30").hand(1, 30, 3).play("t1").hand(1, 30, 1);
         script("a RUN").play("deal59947 x1 d17 p d23 t1 d9").hand(2, 11, 2).play("r2.9").hand(2, 9, 1).hand(2, 11, 1);
-        script("an added tile").play("deal14 d33 t1 d29 p d5 p d31 p d30 p").hand(1, 33, 1).play("a33").hand(1, 33, 0);
+        script("an added tile").play("deal14 d33 t1 d29 p d5 p d31 p d30 p").hand(1, 33, 1).play("a33")
+            .hand(1, 33, 0);
     }
 
     /** "0 of others": no such SEAT, no such KIND, no hand yet. */
@@ -94,7 +95,8 @@ public final class AskEdgeTest {
         script("RUN, the lowest was claimed").play("deal15 d4 r1.4").laid(1, 0, 0, 4);
         script("RUN, the middle was claimed").play("deal16 d3 r1.2").laid(1, 0, 0, 2);
         script("RUN, the highest was claimed").play("deal11 d5 r1.3").laid(1, 0, 0, 3);
-        script("THREE, FOUR").play("deal14 d33 t1").laid(1, 0, 1, 33).play("d29 p d5 p d31 p d30 p a33").laid(1, 0, 2, 33)
+        script("THREE, FOUR").play("deal14 d33 t1").laid(1, 0, 1, 33).play("d29 p d5 p d31 p d30 p a33")
+            .laid(1, 0, 2, 33)
             .play("p").laid(1, 0, 2, 33);
         script("FOUR").play("deal27 d30 f1").laid(1, 0, 2, 30);
         script("hidden FOUR").play("deal-6021044661905231204 h21").laid(0, 0, 3, 21);
@@ -119,7 +121,8 @@ public final class AskEdgeTest {
             + "p d13 p d8 p d32 p d10 p d9 p d26 p d16 p d32 p d1 r3.1 d29 p d27 p d11 p d0 p d11 p d29 p d14 p d5 p d9 p d10 "
             + "p d8 t0 d2 p d3 p d12 p d13 p d26 p d18 t2 d2 p d33 p d30 p d29 p d9 p d25 p d16 p d13 p d19 t3 d20 p d12 p "
             + "d22 p d18 p d32 p d3 p d14 p d21 p d5 p d33 p d10 p d14 p d17 p d24 p d27 p d5 p d0 p d27 p d1 p d17 t3")
-            .seat(3, 5, 4).laid(3, 0, 1, 7).laid(3, 1, 0, 1).laid(3, 2, 1, 19).laid(3, 3, 1, 17).laid(3, 4, -1, -1).house;
+            .seat(3, 5, 4).laid(3, 0, 1, 7).laid(3, 1, 0, 1).laid(3, 2, 1, 19).laid(3, 3, 1, 17).laid(3, 4, -1, -1)
+            .house;
         CHECK.due("laid(3, 5, 0)", house.laid(3, 5, 0), -1);
     }
 
@@ -153,7 +156,8 @@ public final class AskEdgeTest {
             CHECK.yes("river(" + seat + ", 0)", riverThrows(house, seat, 0));
         }
         // 0 and 1 make eighteen discards each, 2 and 3 seventeen.
-        house = script("river, the longest").play("deal7 x70").seat(0, 4, 18).seat(1, 4, 18).seat(2, 4, 17).seat(3, 4, 17).house;
+        house = script("river, the longest").play("deal7 x70").seat(0, 4, 18).seat(1, 4, 18).seat(2, 4, 17)
+            .seat(3, 4, 17).house;
         for (int place = 52; place <= 121; place++) {
             CHECK.due("place " + place, house.river(place % 4, (place - 52) / 4), house.wall(place));
         }
@@ -202,7 +206,8 @@ public final class AskEdgeTest {
 
     /** "4 how many discards": claimed ones too. */
     private static void seatDiscards() {
-        script("discards").seat(0, 4, 0).play("deal14").seat(0, 4, 0).play("d33").seat(0, 4, 1).play("t1").seat(0, 4, 1)
+        script("discards").seat(0, 4, 0).play("deal14").seat(0, 4, 0).play("d33").seat(0, 4, 1).play("t1")
+            .seat(0, 4, 1)
             .seat(1, 4, 0).play("d29 p d5 p d31 p d30").seat(0, 4, 2);
         script("all discards").play("deal7 x70").seat(0, 4, 18).play("deal14").seat(0, 4, 0);
     }
@@ -215,13 +220,15 @@ public final class AskEdgeTest {
         script("a RUN").play("deal15 d4 r1.4").seat(1, 5, 1).seat(1, 6, 1);
         // 3 has an added FOUR and a hidden one.
         script("both").play("deal1480192573074383775 d12 p d30 p d32 t3 d25 p d3 p d27 p d30 p d7 p d16 p d33 p d28 p d13 p "
-            + "d33 p d28 p d30 p a32").seat(3, 5, 1).seat(3, 6, 1).play("p d0 p d9 p d3 p d4 p d10 p d8 f1 d16 p h18 d16 p "
+            + "d33 p d28 p d30 p a32").seat(3, 5, 1).seat(3, 6, 1)
+            .play("p d0 p d9 p d3 p d4 p d10 p d8 f1 d16 p h18 d16 p "
             + "d22 p d9 p d12 p d19 p h29").seat(3, 5, 2).seat(3, 6, 1).seat(2, 5, 1).seat(2, 6, 0);
     }
 
     /** "7 whether it says that it wins". */
     private static void seatSays() {
-        script("says so").play("deal427 d1").seat(2, 7, 0).play("c2").seat(2, 7, 1).seat(1, 7, 0).play("p").seat(2, 7, 1)
+        script("says so").play("deal427 d1").seat(2, 7, 0).play("c2").seat(2, 7, 1).seat(1, 7, 0).play("p")
+            .seat(2, 7, 1)
             .play("deal14").seat(2, 7, 0);
     }
 
@@ -255,7 +262,8 @@ public final class AskEdgeTest {
     private static void wonOwnBetNotTakenOff() {
         // 18,000 and its own 1,000; it has 18,000 more than at first.
         script("its own bet").play("deal9952 b13 p x2 d1 c0 p").won(0, 0, 3, 3000, 6, 30, 19000, 1).seat(0, 0, 43000);
-        script("STAYS too").play("deal63 n deal9952 b13 p x2 d1 c0 p").won(0, 0, 3, 3000, 6, 30, 19300, 1).seat(0, 0, 43300);
+        script("STAYS too").play("deal63 n deal9952 b13 p x2 d1 c0 p").won(0, 0, 3, 3000, 6, 30, 19300, 1)
+            .seat(0, 0, 43300);
     }
 
     /** "NONE for others": no such win, nothing else is told. */
@@ -275,7 +283,8 @@ public final class AskEdgeTest {
 
     /** "win i of the latest hand": none while one goes on, none of a hand before that. */
     private static void wonInTheLatestHand() {
-        script("a new hand").play(TWO_WIN).count(11, 2).play("deal14").count(11, 0).won(0, -1, -1, -1).forms(0).won(1, -1);
+        script("a new hand").play(TWO_WIN).count(11, 2).play("deal14").count(11, 0).won(0, -1, -1, -1).forms(0)
+            .won(1, -1);
         script("without a winner").play(TWO_WIN + "deal63 n").count(11, 0).won(0, -1, -1).forms(0);
         script("a refused deal").play("deal78981 w deal78981 w !deal14").count(11, 1).won(0, 0, -1).forms(0, 42);
     }
@@ -307,14 +316,17 @@ public final class AskEdgeTest {
     /** "7 FOURS made in the hand, 8 the SIGNS that are open": 0 to 4, 1 to 5. */
     private static void countFoursAndSigns() {
         script("FOURS").count(7, 0).play("deal27").count(7, 0).count(8, 1).play("d30 f1").count(7, 1).count(8, 2);
-        script("FOURS of an earlier hand").play("deal30623 d28 f2 d10 p d22 c2 p").count(7, 1).count(8, 2).play("deal14")
+        script("FOURS of an earlier hand").play("deal30623 d28 f2 d10 p d22 c2 p").count(7, 1).count(8, 2)
+            .play("deal14")
             .count(7, 0).count(8, 1);
     }
 
     /** "10 hands that ended, 11 wins in the latest hand". */
     private static void countHandsAndWins() {
-        script("hands").count(10, 0).play("deal63").count(10, 0).play("n").count(10, 1).count(11, 0).play("deal427 d1 c2")
-            .count(10, 1).count(11, 0).play("p").count(10, 2).count(11, 1).play("deal7 x70").count(10, 3).count(11, 0);
+        script("hands").count(10, 0).play("deal63").count(10, 0).play("n").count(10, 1).count(11, 0)
+            .play("deal427 d1 c2")
+            .count(10, 1).count(11, 0).play("p").count(10, 2).count(11, 1).play("deal7 x70").count(10, 3)
+            .count(11, 0);
     }
 
     /** "12 the tile that may be claimed, robbed, or that was drawn (NONE)". */

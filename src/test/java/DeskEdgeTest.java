@@ -255,7 +255,8 @@ public final class DeskEdgeTest {
         CHECK.due("no thirteen", desk("0 8 9 17 18 26 27 28 29 30 31 32 33 1").worth(0, true, 1, 0, 0), 0);
         CHECK.due("PAIRS, one twice", desk("1 1 1 1 9 9 14 14 20 20 27 27 33 33").worth(33, true, 1, 0, 0), 0);
         CHECK.due("PAIRS beside a SET", desk("h0 1 1 9 9 14 14 20 20 33 33").worth(33, true, 1, 0, 0), 0);
-        CHECK.due("four in the hand are no FOUR", desk("1 1 1 1 9 10 11 14 15 16 20 20 20 33").worth(33, true, 1, 0, 0), 0);
+        CHECK.due("four in the hand are no FOUR", desk("1 1 1 1 9 10 11 14 15 16 20 20 20 33")
+            .worth(33, true, 1, 0, 0), 0);
     }
 
     /** "worth nothing": dear tiles alone are no FORM; FULL it is, so there are WAYS. */

@@ -63,7 +63,8 @@ public final class EndEdgeTest {
 
     /** "(6 times to the DEALER)": 1,440, and 9,600, which it is. */
     private static void sixTimesToTheDealer() {
-        script("1,440").play(by(DEALER_WINS, 0)).won(0, 0, 1, 240, 1, 30, 1500, 19).points(26500, 23500, 25000, 25000);
+        script("1,440").play(by(DEALER_WINS, 0)).won(0, 0, 1, 240, 1, 30, 1500, 19)
+            .points(26500, 23500, 25000, 25000);
         script("9,600").play("deal33172 d19 p d30 p d10 p d19 p d11 p d17 c0 p").won(0, 0, 1, 1600, 4, 25, 9600, 17);
     }
 
@@ -89,14 +90,16 @@ public final class EndEdgeTest {
 
     /** "and 100 for each of STAYS", from each. */
     private static void oneHundredForEachOfStays() {
-        script("STAYS 2, a draw").play("deal63 n deal63 n deal669692 d14 t2 d0 p w").won(0, 3, -1, 640, 2, 40, 3300, 24)
+        script("STAYS 2, a draw").play("deal63 n deal63 n deal669692 d14 t2 d0 p w")
+            .won(0, 3, -1, 640, 2, 40, 3300, 24)
             .points(23500, 24100, 24100, 28300);
     }
 
     /** "Several that win by one tile are all paid (STAYS: to the first of them behind who pays)". */
     private static void severalAreAllPaid() {
         // The order in which they say so does not matter.
-        Script script = script("three win").play(THREE_WIN + "c3 c1 c2 p").count(11, 3).won(0, 1, 0, 800, 3, 25, 5200, 15);
+        Script script = script("three win").play(THREE_WIN + "c3 c1 c2 p").count(11, 3)
+            .won(0, 1, 0, 800, 3, 25, 5200, 15);
         script.won(1, 2, 0, 640, 2, 40, 2600, 15).won(2, 3, 0, 240, 1, 30, 1000, 15).won(3, -1, -1).forms(3);
         script.forms(0, 0, 16).forms(1, 0, 10).forms(2, 11).points(18200, 29200, 26600, 26000).count(4, 0);
         script("three win, STAYS 1").play("deal63 n " + THREE_WIN + "c1 c2 c3 p").won(0, 1, 0, 800, 3, 25, 5500, 15)
@@ -109,7 +112,8 @@ public final class EndEdgeTest {
     private static void betsGoToTheFirst() {
         script("two BETS").play(THREE_WIN).count(5, 2).play("c2 c3 p").won(0, 2, 0, 640, 2, 40, 4600, 15).count(5, 0);
         script("two BETS, the last alone").play(THREE_WIN + "c3 p").won(0, 3, 0, 240, 1, 30, 3000, 15).count(5, 0);
-        script("BETS and a draw").play("deal9952 b13 p").count(5, 1).play("x2 d1 c0 p").won(0, 0, 3, 3000, 6, 30, 19000, 1)
+        script("BETS and a draw").play("deal9952 b13 p").count(5, 1).play("x2 d1 c0 p")
+            .won(0, 0, 3, 3000, 6, 30, 19000, 1)
             .seat(0, 0, 43000).count(5, 0);
         script("two BETS, the DEALER is second").play(DEALER_AND_ANOTHER_WIN).count(5, 2).play("c0 c3 p")
             .won(0, 3, 1, 1280, 3, 40, 7200, 2).won(1, 0, 1, 640, 2, 40, 3900, 2).count(5, 0);
@@ -134,7 +138,8 @@ public final class EndEdgeTest {
     /** "0 if others alone won": not if the DEALER won with them. */
     private static void dealerStaysIfItWonToo() {
         script("with another").play(DEALER_AND_ANOTHER_WIN + "c3 c0 p").count(11, 2).count(2, 0).count(4, 1);
-        script("another alone").play("deal63 n").count(4, 1).play(DEALER_AND_ANOTHER_WIN + "c3 p").count(2, 1).count(4, 0);
+        script("another alone").play("deal63 n").count(4, 1).play(DEALER_AND_ANOTHER_WIN + "c3 p").count(2, 1)
+            .count(4, 0);
     }
 
     /** "or, without a winner, WAITED": STAYS is 1 more, whether it stays or not. */
@@ -147,10 +152,12 @@ public final class EndEdgeTest {
 
     /** "(or the hand was given up)": by whomever. */
     private static void dealerStaysIfGivenUp() {
-        script("by the DEALER").play("deal63 n").count(2, 0).count(4, 1).count(10, 1).points(25000, 25000, 25000, 25000);
+        script("by the DEALER").play("deal63 n").count(2, 0).count(4, 1).count(10, 1)
+            .points(25000, 25000, 25000, 25000);
         script("by another").play("deal1163 x1 n").count(2, 0).count(4, 1);
         // The BET of 0 stays on the table, for the first to win.
-        script("with a BET").play("deal4532417 b13 p n").count(5, 1).count(2, 0).count(4, 1).points(24000, 25000, 25000,
+        script("with a BET").play("deal4532417 b13 p n").count(5, 1).count(2, 0).count(4, 1)
+            .points(24000, 25000, 25000,
             25000).seat(0, 1, 2).play(by(NEXT_WINS, 1)).won(0, 1, 0, 240, 1, 30, 2300, 5).count(5, 0);
     }
 
@@ -217,7 +224,8 @@ public final class EndEdgeTest {
         lastHand("the ROUND").play(EndTest.TWO_WAIT).count(9, 1).count(5, 0).points(24500, 27500, 23500, 24500);
         // 0 has 1,000 POINTS and pays 3,000 to the others, two of which have bet; 2 has the most.
         script("POINTS below 0").play("deal185104 x1 w deal185104 x1 w").points(1000, 41000, 49000, 9000).count(2, 2)
-            .play(EndTest.THREE_WAIT).count(9, 1).count(5, 0).points(-2000, 41000, 52000, 9000).count(2, 2).count(4, 0);
+            .play(EndTest.THREE_WAIT).count(9, 1).count(5, 0).points(-2000, 41000, 52000, 9000).count(2, 2)
+            .count(4, 0);
     }
 
     /** "(the lowest of several)": 0 and 1 have 25,500 both. */
@@ -233,14 +241,17 @@ public final class EndEdgeTest {
 
     /** "In PHASE 0 hands, SETS laid down .., discards, flags, SIGNS are as the hand ended". */
     private static void phaseZero() {
-        Script script = script("won by a tile").play("deal30623 d28 f2 d10 p d22 c2").has(2, 20, 21, 22, 23, 23, 24, 24, 25,
+        Script script = script("won by a tile").play("deal30623 d28 f2 d10 p d22 c2")
+            .has(2, 20, 21, 22, 23, 23, 24, 24, 25,
             33, 33).play("p").count(0, 0);
         // The 22 is not in the hand of 2; it is a discard of 3.
-        script.has(2, 20, 21, 22, 23, 23, 24, 24, 25, 33, 33).laid(2, 0, 2, 28).seat(2, 7, 1).seat(2, 6, 1).seat(3, 4, 1);
+        script.has(2, 20, 21, 22, 23, 23, 24, 24, 25, 33, 33).laid(2, 0, 2, 28).seat(2, 7, 1).seat(2, 6, 1)
+            .seat(3, 4, 1);
         CHECK.due("river(3, 0)", script.house.river(3, 0), 22);
         CHECK.due("river(0, 0), which was claimed", script.house.river(0, 0), 28);
         script.count(8, 2).count(7, 1).count(12, -1).count(1, -1).waits(2, 19, 22, 25);
-        script("won by a draw").play("deal590752 b11 p x3 w").has(0, 1, 2, 3, 5, 5, 12, 13, 14, 15, 16, 17, 22, 23, 24)
+        script("won by a draw").play("deal590752 b11 p x3 w")
+            .has(0, 1, 2, 3, 5, 5, 12, 13, 14, 15, 16, 17, 22, 23, 24)
             .seat(0, 1, 2).seat(0, 7, 0).count(8, 1).count(12, -1).count(1, -1);
         // "(a robbed FOUR, too)".
         script("robbed").play("deal8388691691443010381 d8 p d6 p d3 p d14 t2 d28 p d15 p d9 p d1 p d29 p d25 t0 d29 p d22 p "

@@ -85,8 +85,10 @@ public final class HandEdgeTest {
 
     /** "or claimed". */
     private static void thousandAsItIsClaimed() {
-        script("claimed for a THREE").play("deal437946 b7").seat(0, 0, 25000).play("t1").seat(0, 0, 24000).count(5, 1);
-        script("claimed for a RUN").play("deal44882 x1 b2").seat(1, 0, 25000).play("r2.1").seat(1, 0, 24000).count(5, 1);
+        script("claimed for a THREE").play("deal437946 b7").seat(0, 0, 25000).play("t1").seat(0, 0, 24000)
+            .count(5, 1);
+        script("claimed for a RUN").play("deal44882 x1 b2").seat(1, 0, 25000).play("r2.1").seat(1, 0, 24000)
+            .count(5, 1);
     }
 
     /** "(not if it is won by)". */
@@ -100,7 +102,8 @@ public final class HandEdgeTest {
 
     /** "and makes no FOUR": neither out of its hand nor of a discard. */
     private static void betMakesNoFour() {
-        script("hide").play("deal-5348581569865728475 d5 p d13 p d15 p d23 p d27 p b33 p d2 t3 d32 p d12 p").hand(1, 16, 4)
+        script("hide").play("deal-5348581569865728475 d5 p d13 p d15 p d23 p d27 p b33 p d2 t3 d32 p d12 p")
+            .hand(1, 16, 4)
             .play("!h16").count(7, 0);
         script("four").play("deal44882 x1 b2 r2.1 d8").hand(1, 8, 3).play("!f1").count(7, 0);
     }
@@ -111,6 +114,7 @@ public final class HandEdgeTest {
         script("1 bets first").play("deal41491 x1 b4").seat(1, 1, 2);
         script("2 bets first").play("deal427 x1 d8 p b1").seat(2, 1, 2);
         script("3 bets first").play("deal105218 x3 b1").seat(3, 1, 2);
+        script("a later hand").play("deal30623 d28 f2 d10 p d22 c2 p deal1256 b13").seat(1, 1, 2);
         Script script = script("0 bets second").play("deal9952 d13 p x3").count(1, 0);
         script.play("b" + script.house.count(12)).seat(0, 1, 1);
     }
@@ -147,7 +151,8 @@ public final class HandEdgeTest {
         script("a robbed FOUR").play("deal-3310977022257032615 d11 t1 d14 p d12 p d13 p d18 p d25 p d2 p d26 p d8 p d17 p "
             + "d9 p b0 p d26 p a11 c3 p").forms(0, 0, 2, 7);
         // The FOUR was made before the BET.
-        script("a FOUR before").play("deal29065 d28 p h17 d8 p d18 p d21 p d32 p d33 p d27 p b26 p d2 c3 p").forms(0, 0, 2);
+        script("a FOUR before").play("deal29065 d28 p h17 d8 p d18 p d21 p d32 p d33 p d27 p b26 p d2 c3 p")
+            .forms(0, 0, 2);
     }
 
     /** "as a discard .. is over .., each other SEAT that WAITS for it has LET GO": not before. */
@@ -183,13 +188,15 @@ public final class HandEdgeTest {
 
     /** "with a BET to the hand's end". */
     private static void lettingGoWithBet() {
-        Script script = script("with a BET").play("deal7467952719035169308 d27 p d32 p d17 p d3 p b29 p d24 p").seat(0, 2, 1);
+        Script script = script("with a BET").play("deal7467952719035169308 d27 p d32 p d17 p d3 p b29 p d24 p")
+            .seat(0, 2, 1);
         script.play("x2").count(1, 0).seat(0, 2, 1).play("x4").count(1, 0).seat(0, 2, 1);
     }
 
     /** In PHASE 0 flags are as the hand ended; the next hand begins without them. */
     private static void lettingGoUpToTheHandsEnd() {
-        Script script = script("the hand's end").play("deal7467952719035169308 d27 p d32 p d17 p d3 p b29 p d24 p x64");
+        Script script = script("the hand's end")
+            .play("deal7467952719035169308 d27 p d32 p d17 p d3 p b29 p d24 p x64");
         script.count(0, 0).seat(0, 2, 1).seat(0, 1, 1).play("deal14").seat(0, 2, 0).seat(0, 1, 0);
     }
 
@@ -202,7 +209,8 @@ public final class HandEdgeTest {
         script("it LET GO").play("deal3753789 b21 p d3 p").seat(0, 2, 1).play("d0 !c0 p x1").count(1, 0)
             .seat(0, 2, 1).play("w").forms(0, 1, 2, 3, 9);
         // Without a BET it has not LET GO any more, as it draws.
-        script("it LET GO, no BET").play("deal656867 d5 p").seat(3, 2, 1).play("x2").seat(3, 2, 0).play("w").forms(0, 43);
+        script("it LET GO, no BET").play("deal656867 d5 p").seat(3, 2, 1).play("x2").seat(3, 2, 0).play("w")
+            .forms(0, 43);
     }
 
     /** "LAST DRAW: the WINNER is the last tile that could be drawn (not behind a FOUR)". */
@@ -224,7 +232,8 @@ public final class HandEdgeTest {
 
     /** "(also behind a FOUR, when none is left)"; the draw behind it is no LAST DRAW. */
     private static void behindTheLastFour() {
-        script("the discard").play("deal69432235 x68").count(6, 1).play("h30 d1").count(6, 0).play("c3 p").forms(0, 5);
+        script("the discard").play("deal69432235 x68").count(6, 1).play("h30 d1").count(6, 0).play("c3 p")
+            .forms(0, 5);
         script("the draw").play("deal18022 d7 p d26 p d25 p d31 p d28 p d9 p d5 r3.4 d20 p x1 d11 p d9 p d32 t2 d20 p x2 "
             + "d29 t0 d26 p x1 d26 p x2 d12 p d27 p x1 d0 p d10 p d10 p x3 d33 p d5 r0.3 d27 p x5 d13 p x4 h1 d3 p x2 d3 p "
             + "d4 p d2 t1 d15 p d25 p d2 p x2 d16 p x1 d14 p d31 p x1 d12 p x1 d8 p d18 p x1 d22 p x1 d3 p x1 d11 p x1 a32 "
@@ -235,6 +244,8 @@ public final class HandEdgeTest {
     private static void heaven() {
         script("HEAVEN").play("deal78981 w").forms(0, 42).won(0, 0, -1, 8000, 13, 25, 48000, 22);
         script("behind a FOUR").play("deal63223968 h3 w").forms(0, 3, 6, 20).won(0, 0, -1, 2000, 4, 50, 12000, 11);
+        // A FOUR was made in the hand before.
+        script("a later hand").play("deal30623 d28 f2 d10 p d22 c2 p deal78981 w").forms(0, 42).won(0, 1, -1);
         // The DEALER's second draw, nothing having been claimed.
         script("its second draw").play("deal590752 d11 p x3 w").forms(0, 3);
     }
@@ -244,6 +255,7 @@ public final class HandEdgeTest {
         script("EARTH of 1").play("deal185104 x1 w").forms(0, 43);
         script("EARTH of 2").play("deal207827 x2 w").forms(0, 43);
         script("EARTH of 3").play("deal10453 x3 w").forms(0, 43);
+        script("a later hand").play("deal30623 d28 f2 d10 p d22 c2 p deal185104 x1 w").forms(0, 43).won(0, 2, -1);
         script("a SET was claimed").play("deal669692 d14 t2 d0 p").seat(3, 4, 0).play("w").forms(0, 3, 15);
         script("a FOUR was made").play("deal88861585 h17 x1").seat(1, 4, 0).play("w").forms(0, 3, 8, 9);
     }

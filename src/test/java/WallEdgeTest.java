@@ -119,8 +119,10 @@ public final class WallEdgeTest {
 
     /** "Behind each FOUR its SEAT draws place 122, 123, .. instead." */
     private static void behindFours() {
-        Script script = script("behind FOURS").play("deal1480192573074383775 d12 p d30 p d32 t3 d25 p d3 p d27 p d30 p "
-            + "d7 p d16 p d33 p d28 p d13 p d33 p d28 p d30 p a32 p").count(1, 3).count(12, wall("deal1480192573074383775", 122));
+        Script script = script("behind FOURS")
+            .play("deal1480192573074383775 d12 p d30 p d32 t3 d25 p d3 p d27 p d30 p "
+            + "d7 p d16 p d33 p d28 p d13 p d33 p d28 p d30 p a32 p").count(1, 3)
+            .count(12, wall("deal1480192573074383775", 122));
         script.play("d0 p d9 p d3 p d4 p d10 p d8 f1").count(1, 1).count(12, script.house.wall(123));
         script.play("d16 p h18").count(1, 2).count(12, script.house.wall(124));
         script.play("d16 p d22 p d9 p d12 p d19 p h29").count(1, 3).count(12, script.house.wall(125));
@@ -128,8 +130,10 @@ public final class WallEdgeTest {
 
     /** "one at first, one more with each FOUR made". */
     private static void signs() {
-        Script script = script("SIGNS").count(8, 0).play("deal1480192573074383775").count(8, 1).play("d12 p d30 p d32 t3 "
-            + "d25 p d3 p d27 p d30 p d7 p d16 p d33 p d28 p d13 p d33 p d28 p d30 p a32").count(8, 1).play("p").count(8, 2);
+        Script script = script("SIGNS").count(8, 0).play("deal1480192573074383775").count(8, 1)
+            .play("d12 p d30 p d32 t3 "
+            + "d25 p d3 p d27 p d30 p d7 p d16 p d33 p d28 p d13 p d33 p d28 p d30 p a32").count(8, 1).play("p")
+            .count(8, 2);
         script.play("d0 p d9 p d3 p d4 p d10 p d8 f1").count(8, 3).play("d16 p h18").count(8, 4);
         script.play("d16 p d22 p d9 p d12 p d19 p h29").count(8, 5);
     }
@@ -145,7 +149,8 @@ public final class WallEdgeTest {
     /** "(behind the 9 the 1), of the WINDS (behind 3 0), of the DRAGONS": the last makes the first dear. */
     private static void dearBehindTheLast() {
         // The SIGN is 8, one 0 is dear; the HIDDEN SIGN is 9, one 10 is.
-        Script script = script("behind 8").play("deal21284 d10 p d14 p d21 p x1 d22 p d32 p d33 p d30 p d30 p b27 p x1 d11 c1 p");
+        Script script = script("behind 8")
+            .play("deal21284 d10 p d14 p d21 p x1 d22 p d32 p d33 p d30 p d30 p b27 p x1 d11 c1 p");
         script.forms(0, 0, 2).won(0, 1, 3, 2000, 4, 40, 9000, 11);
         CHECK.due("the SIGN", script.house.wall(126), 8);
         script = script("behind 17").play("deal67819 d25 p d0 p b32 p d1 p d8 p d13 c2 p").forms(0, 1, 2);

@@ -4,6 +4,12 @@ public final class WorthEdgeTest {
     /** The SEAT's WIND is 29, the ROUND's is 29. */
     private static final int WEST = 2 | 2 << 2;
     private static final String PLAIN = "0 1 2 9 10 11 21 22 23 6 7 8 28 28";
+    /** HAN of the FORMS 0 .. 29, as the document tells them; a FORM that OPEN hands have not is -99. */
+    private static final int[] HAN = {1, 2, 1, 1, 1, 1, 1, 1, 1, 1, 1, 1, 1, 1, 1, 1, 2, 2, 2, 2, 2, 2, 2, 2, 2, 2,
+        3, 3, 3, 6};
+    private static final int[] OPEN_HAN = {-99, -99, -99, -99, 1, 1, 1, 1, 1, -99, -99, 1, 1, 1, 1, 1, 2, 1, 1, 2, 2,
+        2, 2, 1,
+        2, 2, 2, 2, -99, 5};
 
     public static void main(String[] args) {
         betsNotOpen();
@@ -61,15 +67,27 @@ public final class WorthEdgeTest {
         return house;
     }
 
-    /** The FORMS of a hand that another's tile completed. */
+    /** The FORMS of a hand that another's tile completed, and their HAN. */
     private static void forms(String tiles, int kind, int... want) {
-        CHECK.due("FORMS of " + tiles + " by " + kind, weigh(tiles, kind, false, WEST).deskForms(), Script.bits(want));
+        formsAndHan(tiles + " by " + kind, weigh(tiles, kind, false, WEST), isOpen(tiles), want);
     }
 
-    /** The FORMS of a hand that a DRAW completed. */
+    /** The FORMS of a hand that a DRAW completed, and their HAN. */
     private static void drawn(String tiles, int kind, int... want) {
-        CHECK.due("FORMS of " + tiles + " by drawing " + kind, weigh(tiles, kind, true, WEST).deskForms(),
-            Script.bits(want));
+        formsAndHan(tiles + " by drawing " + kind, weigh(tiles, kind, true, WEST), isOpen(tiles), want);
+    }
+
+    private static boolean isOpen(String tiles) {
+        return tiles.contains("r") || tiles.contains("t") || tiles.contains("f");
+    }
+
+    private static void formsAndHan(String name, TileHouse house, boolean open, int... want) {
+        int han = 0;
+        for (int form : want) {
+            han += form >= 32 ? 13 : open ? OPEN_HAN[form] : HAN[form];
+        }
+        CHECK.due("FORMS of " + name, house.deskForms(), Script.bits(want));
+        CHECK.due("HAN of " + name, house.desk(1), han);
     }
 
     private static void fu(String tiles, int kind, boolean drawn, int winds, int want) {
@@ -84,7 +102,8 @@ public final class WorthEdgeTest {
         for (int[] pair : hans) {
             house.worth(28, false, pair[0], WEST, 0);
             CHECK.due("HAN of told " + pair[0], house.desk(1), pair[1]);
-            CHECK.due("FORMS of told " + pair[0], house.deskForms(), pair[0] == 3 || pair[0] == 7 ? pair[0] - 1 : pair[0]);
+            CHECK.due("FORMS of told " + pair[0], house.deskForms(),
+                pair[0] == 3 || pair[0] == 7 ? pair[0] - 1 : pair[0]);
         }
         house = Desk.of(CHECK, "r0 9 10 11 21 22 23 6 7 8 28 28");
         house.worth(28, false, 7 | 32, WEST, 0);
@@ -548,7 +567,8 @@ public final class WorthEdgeTest {
     private static void base(String tiles, int kind, boolean drawn, int fu, int han, int... want) {
         TileHouse house = Desk.of(CHECK, tiles);
         for (int dear = 0; dear < want.length; dear++) {
-            CHECK.due(tiles + " with " + dear + " dear ones: BASE", house.worth(kind, drawn, 0, WEST, dear), want[dear]);
+            CHECK.due(tiles + " with " + dear + " dear ones: BASE", house.worth(kind, drawn, 0, WEST, dear),
+                want[dear]);
             CHECK.due(tiles + ": HAN", house.desk(1), han + dear);
             CHECK.due(tiles + ": FU", house.desk(2), fu);
         }
