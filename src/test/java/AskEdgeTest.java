@@ -3,7 +3,7 @@ import java.util.NoSuchElementException;
 /** Promises 13 to 21, a test for each sentence with an edge: what is asked for is not there. */
 public final class AskEdgeTest {
     private static final Check CHECK = new Check("AskEdgeTest");
-    private static final int[] NO_SEAT = {Integer.MIN_VALUE, -4, -1, 4, 5, 8, Integer.MAX_VALUE};
+    private static final int[] NO_SEAT = {Integer.MIN_VALUE, -4, -3, -2, -1, 4, 5, 6, 7, Integer.MAX_VALUE};
     private static final int[] NO_KIND = {Integer.MIN_VALUE, -34, -1, 34, 35, 64, Integer.MAX_VALUE};
     private static final String TWO_WIN = "deal8190872610450340177 d26 p d30 p d8 p d8 p d15 p d14 p d33 p d28 p d16 p d12 p "
         + "d16 p d14 p d19 c1 c3 p ";

@@ -4,7 +4,7 @@
  */
 public final class ClaimEdgeTest {
     private static final Check CHECK = new Check("ClaimEdgeTest");
-    private static final String FAR = "-2147483648 -1 4 5 2147483647";
+    private static final String FAR = "-2147483648 -2147483647 -4 -3 -2 -1 4 5 6 7 2147483646 2147483647";
 
     public static void main(String[] args) {
         runNotInPhase2();
@@ -44,7 +44,7 @@ public final class ClaimEdgeTest {
         return new Script(CHECK, name);
     }
 
-    /** A call with a SEAT that is none is refused; the text has # where the SEAT stands. */
+    /** A call that a SEAT could make, with one that is none; the text has # where the SEAT stands. */
     private static void noSuchSeat(Script script, String call) {
         for (String seat : FAR.split(" ")) {
             script.play("!" + call.replace("#", seat));
@@ -83,13 +83,12 @@ public final class ClaimEdgeTest {
 
     /** "the SEAT is not the next one"; the next one of 3 is 0. */
     private static void runNotTheNext() {
-        Script script = script("run, two behind").play("deal5 d4").hand(2, 3, 1).hand(2, 5, 1);
-        script.play("!r2.3");
-        noSuchSeat(script, "r#.3");
+        script("run, two behind").play("deal5 d4").hand(2, 3, 1).hand(2, 5, 1).play("!r2.3");
         script("run, three behind").play("deal19 d12").hand(3, 10, 1).hand(3, 11, 1).play("!r3.10");
         script("run, its own").play("deal6 d5").hand(0, 3, 1).hand(0, 4, 1).play("!r0.3");
-        script("run, the next one of 3").play("deal0 x3 d5").count(1, 3).play("!r3.3 !r4.3 r0.3")
-            .count(1, 0).laid(0, 0, 0, 3);
+        Script script = script("run, the next one of 3").play("deal0 x3 d5").count(1, 3).play("!r3.3");
+        noSuchSeat(script, "r#.3");
+        script.play("r0.3").count(1, 0).laid(0, 0, 0, 3);
     }
 
     /** "has a BET". */
@@ -172,6 +171,17 @@ public final class ClaimEdgeTest {
         something("deal284097 d22 p d9 t2 d26 p x1 d17 p d15 r2.13 d0 p d6 p d21 p d23 r2.22 d33 t1 d1 r2.1");
         something("deal48862 d26 t1 d16 p d15 p d19 p d13 p d10 r2.10 d8 p d27 t0 d32 p d22 p d25 r3.23 d16 p d10 p "
             + "d6 t3 d4 p x1 d0 p d14 r3.12 d33 t2 d11 r3.9");
+        // The one tile is another of a KIND of the RUN, the lowest, the middle, the highest.
+        something("deal126021 x1 d6 p x1 d27 p d5 p d7 p d19 p d8 t2 d13 p d3 t1 d17 p d9 p d13 p d12 p x2 d9 p d32 t3 "
+            + "d11 p d18 p x1 d4 r3.4 d15 p d25 t3 d8 p x3 d30 p d31 p x1 d22 r3.20 !d19 d20");
+        String three = "deal45502 d20 p d18 p d7 f1 d10 p x1 d28 p d32 p d32 p x1 d29 p d11 t1 d16 p d19 p d20 p d2 r1.1 "
+            + "d17 p d31 p d1 p ";
+        something(three + "d22 r1.20 !d19 d21");
+        something(three + "d19 r1.19 !d19 d21");
+        // The first KIND of all, the last one.
+        something(three + "d0 p d21 p d25 p d30 p d19 r1.19 !d19 d0");
+        something("deal119665 d15 t3 d17 p d3 p d5 p d21 p d6 p d33 p d8 p d32 t1 d2 t3 d20 p d31 p d4 p d12 r3.11 d30 p "
+            + "x1 d14 p d7 r3.6 !d7 d33");
         // 24 25 26 and 27 27; 18 19 20 and 17 17.
         something("deal121042 d2 t3 d14 p d9 p d28 p d3 p d23 t0 d3 p d32 p d17 t3 d11 p d26 p d10 p d9 p x1 d30 p "
             + "x1 d20 t3 d31 p d14 p d9 p d24 r3.24 !d24 d27");
@@ -209,10 +219,11 @@ public final class ClaimEdgeTest {
     private static void threeAnyOtherSeat() {
         script("three, one behind").play("deal0 d31 t1").count(1, 1);
         script("three, two behind").play("deal3 d32 t2").count(1, 2);
-        script("three, three behind").play("deal8 d1 t3").count(1, 3);
         // 0 keeps two of the three that it had.
-        Script script = script("three, its own").play("deal418 d18").hand(0, 18, 2).play("!t0");
+        script("three, its own").play("deal418 d18").hand(0, 18, 2).play("!t0");
+        Script script = script("three, three behind").play("deal8 d1");
         noSuchSeat(script, "t#");
+        script.play("t3").count(1, 3);
     }
 
     private static void threeWithBet() {
@@ -252,10 +263,11 @@ public final class ClaimEdgeTest {
     private static void fourAnyOtherSeat() {
         script("four, one behind").play("deal27 d30 f1").count(1, 1);
         script("four, two behind").play("deal17 d8 f2").count(1, 2);
-        script("four, three behind").play("deal25 d18 f3").count(1, 3);
         // 0 keeps three of the four that it had.
-        Script script = script("four, its own").play("deal3066 d22").hand(0, 22, 3).play("!f0");
+        script("four, its own").play("deal3066 d22").hand(0, 22, 3).play("!f0");
+        Script script = script("four, three behind").play("deal25 d18");
         noSuchSeat(script, "f#");
+        script.play("f3").count(1, 3);
     }
 
     private static void fourWithBet() {
@@ -290,13 +302,15 @@ public final class ClaimEdgeTest {
 
     /** "it is its own": 0 WAITS for the 7 that it threw. */
     private static void claimItsOwn() {
-        Script script = script("claim, its own").play("deal96239 b7").waits(0, 4, 7, 16).play("!c0");
-        noSuchSeat(script, "c#");
+        script("claim, its own").play("deal96239 b7").waits(0, 4, 7, 16).play("!c0");
         // 1 added the tile itself.
         script("claim, its own added tile").play("deal14 d33 t1 d29 p d5 p d31 p d30 p a33 !c1");
     }
 
     private static void claimSaidSo() {
+        Script script = script("claim, no SEAT").play("deal427 d1");
+        noSuchSeat(script, "c#");
+        script.play("c2").seat(2, 7, 1);
         script("claim twice").play("deal427 d1 c2 !c2").seat(2, 7, 1).play("!c2 p").count(11, 1);
     }
 

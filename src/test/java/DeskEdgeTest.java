@@ -243,6 +243,10 @@ public final class DeskEdgeTest {
         TileHouse house = desk(thirteen);
         CHECK.due("13 tiles", house.worth(27, true, 1, 0, 0), 0);
         answers("13 tiles", house, 0, 0, 0, 0);
+        CHECK.due("a PAIR", desk("27 27").worth(27, true, -1, 0, 0), 0);
+        CHECK.due("three SETS", desk("0 1 2 9 10 11 21 22 23 27 27").worth(27, true, -1, 0, 0), 0);
+        CHECK.due("three SETS laid down", desk("h0 f8 t9 27 27").worth(27, true, -1, 0, 0), 0);
+        CHECK.due("six PAIRS", desk("1 1 4 4 9 9 14 14 20 20 27 27").worth(27, true, -1, 0, 0), 0);
         house = desk(thirteen + " 28");
         CHECK.due("no PAIR", house.worth(27, true, 1L << 42, 0, 0), 0);
         answers("no PAIR", house, 0, 0, 0, 0);
@@ -254,6 +258,7 @@ public final class DeskEdgeTest {
         CHECK.due("no thirteen", desk("0 0 8 8 9 17 18 26 27 28 29 30 31 32").worth(0, true, 1, 0, 0), 0);
         CHECK.due("no thirteen", desk("0 8 9 17 18 26 27 28 29 30 31 32 33 1").worth(0, true, 1, 0, 0), 0);
         CHECK.due("PAIRS, one twice", desk("1 1 1 1 9 9 14 14 20 20 27 27 33 33").worth(33, true, 1, 0, 0), 0);
+        CHECK.due("PAIRS, the first KIND twice", desk("0 0 0 0 9 9 14 14 20 20 27 27 33 33").worth(33, true, 1, 0, 0), 0);
         CHECK.due("PAIRS beside a SET", desk("h0 1 1 9 9 14 14 20 20 33 33").worth(33, true, 1, 0, 0), 0);
         CHECK.due("four in the hand are no FOUR", desk("1 1 1 1 9 10 11 14 15 16 20 20 20 33")
             .worth(33, true, 1, 0, 0), 0);
@@ -459,6 +464,14 @@ public final class DeskEdgeTest {
         waits("h0 f8 t9 r12 27", 27);
         waits("h0 f8 t9 r12");
         waits("h0 f8 t9 r12 27 27");
+        // A SET or more is wanting: with one tile they would be FULL, were hands smaller.
+        waits("27");
+        waits("27 27 1 2");
+        waits("27 0 1 2");
+        waits("0 1 2 9 10 11 27");
+        waits("0 1 2 9 10 11 21 22 23 27");
+        waits("h0 f8 27");
+        waits("h0 f8 t9 27");
         // One tile that is waited for, and one less.
         waits("h0 f8 t9 27 27 1");
         waits("h0 f8 t9 27 27 1 2", 3);

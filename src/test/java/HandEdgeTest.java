@@ -198,6 +198,9 @@ public final class HandEdgeTest {
         Script script = script("the hand's end")
             .play("deal7467952719035169308 d27 p d32 p d17 p d3 p b29 p d24 p x64");
         script.count(0, 0).seat(0, 2, 1).seat(0, 1, 1).play("deal14").seat(0, 2, 0).seat(0, 1, 0);
+        // 3, which does not draw as the next hand begins.
+        script("the hand's end of 3").play(EndTest.THREE_WAIT).seat(3, 1, 1).seat(3, 2, 1).play("deal1").count(1, 0)
+            .seat(3, 1, 0).seat(3, 2, 0);
     }
 
     /** "wins by its own draws alone": who LET GO, or discarded what it WAITS for. */

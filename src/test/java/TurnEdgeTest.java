@@ -22,6 +22,7 @@ public final class TurnEdgeTest {
         discardByItsBet();
         discardBehindThree();
         discardBehindRun();
+        discardBesideRun();
         discardBehindFour();
         passInOtherPhases();
         passInPhase2();
@@ -175,15 +176,48 @@ public final class TurnEdgeTest {
 
     /** "behind a RUN that it claimed the lowest or highest of, the one that would have made a RUN". */
     private static void discardBehindRun() {
-        script("the lowest").play("deal15 d4 r1.4").hand(1, 7, 1).play("!d7 d0 p x3").count(1, 1).play("d7");
-        script("the highest").play("deal11 d5 r1.3").hand(1, 2, 1).play("!d2");
-        script("the middle, below").play("deal16 d3 r1.2").hand(1, 1, 1).play("d1");
-        script("the middle, above").play("deal16 d3 r1.2").hand(1, 5, 1).play("d5");
-        // Behind the 9 of a suit, or before its 1, there is no such KIND.
-        script("7 of 7 8 9").play("deal10 d6 r1.6").hand(1, 9, 1).play("d9");
-        script("7 of 7 8 9, a WIND").play("deal2 d24 r1.24").hand(1, 27, 2).play("d27");
-        script("3 of 1 2 3").play("deal62 d11 r1.9").hand(1, 8, 2).play("d8");
-        script("9 of 7 8 9").play("deal7 d8 r1.6").hand(1, 5, 1).play("!d5");
+        // Each RUN that there is, 1 having the KIND at its other end.
+        String[] lowest = {"deal23 d0 r1.0", "deal11 d1 r1.1", "deal16 d2 r1.2", "deal77 d3 r1.3", "deal4 d4 r1.4",
+            "deal0 d5 r1.5", "deal455 d9 r1.9", "deal429 d10 r1.10", "deal120 d11 r1.11", "deal31 d12 r1.12",
+            "deal146 d13 r1.13", "deal100 d14 r1.14", "deal1 d18 r1.18", "deal70 d19 r1.19", "deal128 d20 r1.20",
+            "deal5 d21 r1.21", "deal131 d22 r1.22", "deal24 d23 r1.23"};
+        for (String calls : lowest) {
+            Script script = script("the lowest").play(calls);
+            otherEnd(script, script.house.laid(1, 0, 1) + 3);
+        }
+        String[] highest = {"deal168 d3 r1.1", "deal23 d4 r1.2", "deal11 d5 r1.3", "deal85 d6 r1.4", "deal20 d7 r1.5",
+            "deal7 d8 r1.6", "deal13 d12 r1.10", "deal13 d13 r1.11", "deal414 d14 r1.12", "deal201 d15 r1.13",
+            "deal31 d16 r1.14", "deal31 d17 r1.15", "deal84 d21 r1.19", "deal70 d22 r1.20", "deal70 d23 r1.21",
+            "deal100 d24 r1.22", "deal118 d25 r1.23", "deal5 d26 r1.24"};
+        for (String calls : highest) {
+            Script script = script("the highest").play(calls);
+            otherEnd(script, script.house.laid(1, 0, 1) - 1);
+        }
+    }
+
+    /** Each KIND of the hand but this one, and the one that was claimed, may be discarded. */
+    private static void otherEnd(Script script, int kind) {
+        CHECK.yes("1 has " + kind, script.house.hand(1, kind) > 0);
+        script.play("!d" + kind + " !b" + kind);
+        int claimed = script.house.river(0, 0);
+        script.play("!d" + claimed);
+        int other = 0;
+        while (other < 33 && (other == kind || other == claimed || script.house.hand(1, other) == 0)) {
+            other++;
+        }
+        script.play("d" + other + " p");
+    }
+
+    /** The middle: what stands beside the RUN goes. Nor is there a KIND over the end of a suit. */
+    private static void discardBesideRun() {
+        script("the middle, below").play("deal16 d3 r1.2").hand(1, 1, 1).play("!d3 d1");
+        script("the middle, above").play("deal16 d3 r1.2").hand(1, 5, 1).play("!d3 d5");
+        script("the middle, the first KIND").play("deal4 d6 r1.5").hand(1, 0, 1).play("d0");
+        script("7 of 7 8 9").play("deal10 d6 r1.6").hand(1, 9, 1).play("!d6 d9");
+        script("7 of 7 8 9, a WIND").play("deal2 d24 r1.24").hand(1, 27, 2).play("!d24 d27");
+        script("3 of 1 2 3").play("deal62 d11 r1.9").hand(1, 8, 2).play("!d11 d8");
+        // What must not be discarded now may be, when it has drawn again.
+        script("later").play("deal15 d4 r1.4").hand(1, 7, 1).play("!d7 d0 p x3").count(1, 1).play("d7");
     }
 
     /** Behind a FOUR it has drawn: any tile goes, the drawn one or another. */
@@ -295,6 +329,9 @@ public final class TurnEdgeTest {
             .play("!a2");
         script("add, the middle of a RUN").play("deal32729 d1 r1.1 d15 f0 d24 p").hand(1, 2, 1).play("!a2");
         script("add, the highest of a RUN").play("deal70199 d4 r1.3 d32 t0 d11 p").hand(1, 5, 1).play("!a5");
+        // 0 claimed a THREE of 27 in the hand before.
+        script("add, an earlier hand's THREE").play("deal246 d15 p d17 p d27 t0 d1 p d31 c0 p").laid(0, 0, 1, 27)
+            .play("deal63").hand(0, 27, 1).laid(0, 0, -1, -1).play("!a27");
         script("add, in the hand").play("deal3").hand(0, 17, 3).play("!a17");
         script("add, four in the hand").play("deal-6021044661905231204").hand(0, 21, 4).play("!a21");
     }

@@ -288,6 +288,7 @@ public final class WorthEdgeTest {
         forms("0 1 2 6 7 8 9 10 11 28 28 28 31 31", 31, 23);
         forms("0 1 2 6 7 8 9 10 11 28 28 28 17 17", 17, 23);
         forms("0 1 2 6 7 8 9 10 11 17 17 17 31 31", 31, 23);
+        forms("t8 t9 0 1 2 28 28 28 31 31", 31, 23);
         // No RUN, no HONOUR, one SET without an END, a PAIR without one.
         forms("t0 t8 t9 28 28 28 31 31", 31, 19, 24);
         forms("0 1 2 6 7 8 9 10 11 17 17 17 26 26", 26, 27);
@@ -301,6 +302,7 @@ public final class WorthEdgeTest {
     private static void terminalsInEach() {
         forms("0 1 2 6 7 8 9 10 11 17 17 17 26 26", 26, 27);
         forms("0 1 2 6 7 8 9 10 11 28 28 28 26 26", 26, 23);
+        forms("t8 t9 0 1 2 17 17 17 26 26", 26, 27);
         forms("t0 t8 t9 17 17 17 26 26", 26, 38);
         CHECK.due("HAN", weigh("0 1 2 6 7 8 9 10 11 17 17 17 26 26", 26, false, WEST).desk(1), 3);
         CHECK.due("HAN, OPEN", weigh("r0 6 7 8 9 10 11 17 17 17 26 26", 26, false, WEST).desk(1), 2);
@@ -413,10 +415,12 @@ public final class WorthEdgeTest {
                 forms(gates + kind, kind, 40);
             }
         }
-        // Two 1s; no 9 but another suit's; a hidden FOUR.
+        // Two 1s; no 9 but another suit's.
         forms("0 0 1 1 2 2 3 4 5 6 7 8 8 8", 8, 9, 10, 18, 29);
         forms("0 0 0 1 2 3 3 4 5 6 7 8 9 9", 9);
-        CHECK.due("a hidden FOUR", weigh("h0 1 2 3 4 5 6 7 8 8 8", 7, true, WEST).deskForms() >> 40 & 1, 0);
+        // Three 1s and 9s and one of each other, but a RUN is laid down.
+        forms("r1 0 0 0 4 5 6 7 7 8 8 8", 7, 29);
+        forms("r2 0 0 0 1 1 5 6 7 8 8 8", 1, 29);
     }
 
     /** "41 four FOURS". */
@@ -454,6 +458,7 @@ public final class WorthEdgeTest {
         fu(sets + "14 14", 22, true, WEST, 30);
         fu(sets + "31 31", 22, true, WEST, 30);
         fu(sets + "29 29", 22, true, WEST, 40);
+        fu(sets + "31 31", 31, true, WEST, 30);
     }
 
     /** "at least 30 if OPEN": 20 is 30, not less of others. */
