@@ -57,7 +57,8 @@ public final class WorthEdgeTest {
         baseOfFourAndLess();
         baseOfFiveAndMore();
         greatestBase();
-        thenHanThenFuThenForms();
+        thenHanThenFu();
+        thenForms();
         CHECK.end();
     }
 
@@ -602,8 +603,8 @@ public final class WorthEdgeTest {
         CHECK.due("FU", house.desk(2), 30);
     }
 
-    /** "then HAN, then FU, then FORMS (as bits of a long)". */
-    private static void thenHanThenFuThenForms() {
+    /** "then HAN, then FU". */
+    private static void thenHanThenFu() {
         // 8,000 both ways: the 3 as the highest of 1 2 3 has 30 FU and FLAT, as the PAIR 40 FU.
         TileHouse house = Desk.of(CHECK, "1 2 3 4 5 6 12 13 14 21 22 23 3 3");
         CHECK.due("HAN, BASE", house.worth(3, false, 0, WEST, 12), 8000);
@@ -619,5 +620,24 @@ public final class WorthEdgeTest {
         house = Desk.of(CHECK, "9 10 11 14 14 15 15 16 16 17 17 24 25 26");
         CHECK.due("EARTH, BASE", house.worth(17, true, 1L << 43, 1, 0), 8000);
         CHECK.due("EARTH, FU", house.desk(2), 30);
+    }
+
+    /** "then FORMS (as bits of a long)". */
+    private static void thenForms() {
+        // 2 2, 2 3 4, 5 5 5: with the FOUR and the other THREE three hidden ones (20), 54 or 56 FU.
+        // 2 2 2, 3 4 5, 5 5: the THREES of one number in all suits (22), but only two hidden, 52 FU.
+        TileHouse house = Desk.of(CHECK, "h10 19 19 19 1 1 1 2 3 4 4 4");
+        alike(house, 1);
+        // The other way round: now the WAY that is told first, by its lower PAIR, has the greater FORMS.
+        house = Desk.of(CHECK, "h13 22 22 22 1 1 1 2 3 4 4 4");
+        alike(house, 4);
+    }
+
+    private static void alike(TileHouse house, int kind) {
+        CHECK.due("FORMS, BASE", house.worth(kind, false, 0, WEST, 0), 1920);
+        CHECK.due("FORMS, HAN", house.desk(1), 3);
+        CHECK.due("FORMS, FU", house.desk(2), 60);
+        CHECK.due("FORMS, WAYS", house.desk(3), 3);
+        CHECK.due("FORMS", house.deskForms(), Script.bits(8, 22));
     }
 }
